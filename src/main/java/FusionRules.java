@@ -1012,21 +1012,22 @@ public final class FusionRules {
             equation[sort] = 1;
             boolean good = learn(sort);
             for (int other = 1; good && other < fusion.size; other++) {
-                becomeLaw(fusion, sort, other, other, number);
+                becomeLaw(fusion, sort, other, number);
                 good = learn(sort);
-                becomeLaw(fusion, other, sort, other, number);
-                good = good && learn(sort);
             }
             return good;
         }
 
-        /** The equation by which the number of SORT other, so many times, is that of what i and j give. */
-        private void becomeLaw(Fusion fusion, int i, int j, int other, int times) {
+        /**
+         * The equation by which a SORT's number times that of another is what both give, the chosen
+         * one first; the other order comes when the other one is chosen.
+         */
+        private void becomeLaw(Fusion fusion, int sort, int other, int number) {
             Arrays.fill(equation, 0);
             for (int k = 0; k < fusion.size; k++) {
-                equation[k] = (PRIME - fusion.at(i, j, k)) % PRIME;
+                equation[k] = (PRIME - fusion.at(sort, other, k)) % PRIME;
             }
-            equation[other] = (equation[other] + times) % PRIME;
+            equation[other] = (equation[other] + number) % PRIME;
         }
 
         /** Takes the equation to those known at a depth; false, if it can't be with them. */

@@ -166,10 +166,47 @@ public final class FaceTest {
         CHECK.holds("an object is small, but took " + bytes + " bytes", bytes < 16384 && y.of(1) == 2);
     }
 
+    /** Each method with all rows of odd arguments, in states of all KINDS and SIZES: none may throw. */
+    private static void neverThrows() {
+        int[] odd = {Integer.MIN_VALUE, -1, 0, 1, 4, 5, 12, 31, Integer.MAX_VALUE};
+        for (int state = 0; state < 25; state++) {
+            for (Method method : FusionRules.class.getMethods()) {
+                if (method.getDeclaringClass() == FusionRules.class) {
+                    FusionRules x = new FusionRules();
+                    x.set(0, state % 5);
+                    x.set(1, 1 + state / 5);
+                    x.list(0, 12);
+                    callWithAll(x, method, odd);
+                }
+            }
+        }
+    }
+
+    private static void callWithAll(FusionRules x, Method method, int[] odd) {
+        Class<?>[] types = method.getParameterTypes();
+        int rows = (int) Math.pow(odd.length, types.length);
+        for (int row = 0; row < Math.min(rows, 2000); row++) {
+            Object[] values = new Object[types.length];
+            int rest = rows > 2000 ? row * 29 : row;
+            for (int i = 0; i < types.length; i++) {
+                int value = odd[rest % odd.length];
+                values[i] = types[i] == long.class ? (Object) Long.valueOf(value) : (Object) Integer.valueOf(value);
+                rest /= odd.length;
+            }
+            try {
+                method.invoke(x, values);
+            } catch (ReflectiveOperationException fault) {
+                CHECK.holds(method + " threw " + fault.getCause() + " with row " + row, false);
+            }
+        }
+        CHECK.holds(method + " was called", rows > 0);
+    }
+
     public static void main(String[] args) throws IOException {
         face();
         language();
         room();
+        neverThrows();
         CHECK.end("FaceTest");
     }
 }

@@ -215,6 +215,11 @@ public final class PromiseTest {
             due("LADDER 2 2", ladder.often(2, 2, k), due22[k]);
             due("LADDER 1 3", ladder.often(1, 3, k), due13[k]);
         }
+        due("LADDER 2 3", ladder.often(2, 3, 1), 1);
+        due("LADDER 2 3 has a top", ladder.often(2, 3, 3), 0);
+        due("LADDER 3 2 has a top", ladder.often(3, 2, 3), 0);
+        due("LADDER 3 3 has a top", ladder.often(3, 3, 2), 0);
+        due("LADDER 1 2 by twos", ladder.often(1, 2, 2), 0);
         FusionRules house = made(3, 4, 7);
         due("HOUSE T T others", house.often(3, 3, 2), 1);
         due("HOUSE T T T", house.often(3, 3, 3), 0);
@@ -861,12 +866,16 @@ public final class PromiseTest {
         z.plan(2, 0);
         z.plan(1, 0);
         due("0 times and 1 more", z.ends(0, 0), 1);
+        z.plan(-1, 0);
+        z.plan(0, 1);
+        due("999 at most of ONE", z.ends(0, 0), 999);
+        z.plan(2, 0);
         due("0 times", z.ends(0, 1), 0);
     }
 
     private static void promise31() {
         FusionRules x = made(0, 5, 0);
-        String[] texts = {"0", "a", "e", "2a+b", "10a+100b+999c+d+11e", "999a+999b+999c+999d+999e", "101b", "110c+20d"};
+        String[] texts = {"0", "a", "e", "2a+b", "10a+100b+999c+d+11e", "999a+999b+999c+999d+999e", "101b", "110c+20d", "a+b+2c"};
         for (String text : texts) {
             element(x, 2, text);
             text("written", written(x, 2), text);
@@ -928,10 +937,12 @@ public final class PromiseTest {
         due("-1", x.list(3, -1), BELOW);
         due("4", x.list(4, 0), -1);
         due("NONE ahead of BAD", x.list(-1, 13), -1);
+        x.put(3, 0, 4);
         x.put(3, 2, 5);
         due("5", x.get(3, 2), 5);
         due("again", x.list(3, 3), 1);
         due("all 0", x.get(3, 2), 0);
+        due("all 0, the first, too", x.get(3, 0), 0);
         due("shorter", x.get(3, 3), NO);
         due("0", x.list(3, 0), 1);
         due("a row of 0", x.put(3, 0, 1), BEYOND);
