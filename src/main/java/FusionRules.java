@@ -243,16 +243,18 @@ public final class FusionRules {
         if (i >= 0 && !isSort(k)) {
             return NONE;
         }
-        return isCharacter(i) ? currentCharacters().numberOf(i, k) : NOT;
+        Characters all = currentCharacters();
+        return all.isThere(i) ? all.numberOf(i, k) : NOT;
     }
 
     public int squares(int i) {
-        if (!isCharacter(i)) {
+        Characters all = currentCharacters();
+        if (!all.isThere(i)) {
             return NOT;
         }
         int sum = 0;
         for (int k = 0; k < held.size; k++) {
-            int number = currentCharacters().numberOf(i, k);
+            int number = all.numberOf(i, k);
             sum += number * number;
         }
         return sum % PRIME;
@@ -262,11 +264,12 @@ public final class FusionRules {
         if (!areSorts(i, j, k)) {
             return NONE;
         }
-        if (currentCharacters().found != held.size) {
+        Characters all = currentCharacters();
+        if (all.found != held.size) {
             return STATE;
         }
         int[] table = squareTables.product;
-        copyCharacters(table);
+        all.copyTo(table, held.size);
         if (!squareTables.invert(table, held.size)) {
             return STATE;
         }
@@ -304,10 +307,11 @@ public final class FusionRules {
     }
 
     public int fill() {
-        if (currentCharacters().found != held.size) {
+        Characters all = currentCharacters();
+        if (all.found != held.size) {
             return STATE;
         }
-        copyCharacters(held.first);
+        all.copyTo(held.first, held.size);
         return held.size;
     }
 
@@ -585,10 +589,6 @@ public final class FusionRules {
         return bits >= 0 && bits < 1 << held.size;
     }
 
-    private boolean isCharacter(int i) {
-        return i >= 0 && i < currentCharacters().found;
-    }
-
     // ---- what is reckoned from the rules
 
     private void forgetRules() {
@@ -610,14 +610,6 @@ public final class FusionRules {
             charactersKnown = true;
         }
         return characters;
-    }
-
-    private void copyCharacters(int[] table) {
-        for (int i = 0; i < held.size; i++) {
-            for (int m = 0; m < held.size; m++) {
-                table[i * SORTS + m] = currentCharacters().numberOf(m, i);
-            }
-        }
     }
 
     // ---- rows of numbers of SORTS
@@ -974,8 +966,21 @@ public final class FusionRules {
         Characters() {
         }
 
+        boolean isThere(int i) {
+            return i >= 0 && i < found;
+        }
+
         int numberOf(int i, int sort) {
             return rows[i * SORTS + sort];
+        }
+
+        /** Number (i, m) of the table becomes that of SORT i in the m-th. */
+        void copyTo(int[] table, int size) {
+            for (int i = 0; i < size; i++) {
+                for (int m = 0; m < size; m++) {
+                    table[i * SORTS + m] = numberOf(m, i);
+                }
+            }
         }
 
         void find(Fusion fusion) {
