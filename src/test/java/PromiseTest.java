@@ -1,60 +1,6 @@
 /** For each promise of the document: ordinary inputs, the edges that it names, wrong inputs. */
-public final class PromiseTest {
-    private static final Check CHECK = new Check();
-    private static final int NOTHING = -11, BEYOND = -13, BELOW = -14;
-    private static final long NO = Long.MIN_VALUE;
-
+public final class PromiseTest extends Runs {
     private PromiseTest() {
-    }
-
-    private static void due(String call, long got, long want) {
-        CHECK.same(call, got, want);
-    }
-
-    private static FusionRules made(int kind, int size, int figure) {
-        FusionRules x = new FusionRules();
-        x.set(0, kind);
-        x.set(1, size);
-        x.set(2, figure);
-        return x;
-    }
-
-    private static void feed(FusionRules x, String text) {
-        for (int i = 0; i < text.length(); i++) {
-            x.feed(text.charAt(i));
-        }
-    }
-
-    private static int rules(FusionRules x, String text) {
-        feed(x, text);
-        return x.rules();
-    }
-
-    private static int element(FusionRules x, int element, String text) {
-        feed(x, text);
-        return x.element(element);
-    }
-
-    private static String written(FusionRules x, int element) {
-        int length = x.write(element);
-        StringBuilder text = new StringBuilder();
-        for (int i = 0; i < length; i++) {
-            text.append((char) x.paper(i));
-        }
-        due("paper behind the last byte", x.paper(length), -1);
-        return text.toString();
-    }
-
-    private static String row(FusionRules x, int element) {
-        StringBuilder text = new StringBuilder();
-        for (int sort = 0; sort < x.of(1); sort++) {
-            text.append(sort == 0 ? "" : " ").append(x.has(element, sort));
-        }
-        return text.toString();
-    }
-
-    private static void text(String call, String got, String want) {
-        CHECK.holds(call + " gave " + got + ", due is " + want, got.equals(want));
     }
 
     private static void promise1() {
