@@ -987,19 +987,20 @@ public final class FusionRules {
             found = 0;
             chosen[0] = 1;
             Arrays.fill(known, 0);
-            choose(fusion, 1);
+            choose(this, fusion, 1);
         }
 
-        private void choose(Fusion fusion, int sort) {
+        /** Calls itself once for each SORT behind ONE: five levels at most. */
+        private static void choose(Characters all, Fusion fusion, int sort) {
             if (sort >= SORTS || sort >= fusion.size) {
-                keepChosen();
+                all.keepChosen();
                 return;
             }
             for (int number = 0; number < PRIME; number++) {
-                System.arraycopy(known, (sort - 1) * PAIRS, known, sort * PAIRS, PAIRS);
-                if (goesOn(fusion, sort, number)) {
-                    chosen[sort] = number;
-                    choose(fusion, sort + 1);
+                System.arraycopy(all.known, (sort - 1) * PAIRS, all.known, sort * PAIRS, PAIRS);
+                if (all.goesOn(fusion, sort, number)) {
+                    all.chosen[sort] = number;
+                    choose(all, fusion, sort + 1);
                 }
             }
         }

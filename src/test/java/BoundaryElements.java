@@ -87,6 +87,22 @@ final class BoundaryElements extends Runs {
         text("the other one", row(x, 0), "0 2");
     }
 
+    @Sentence(promise = 14, says = "PUT TOGETHER are two ELEMENTS: for each k the sum of both numbers times OFTEN.")
+    static void togetherSums() {
+        FusionRules x = told(3, "b*b=9a+2c;b*c=9b;c*c=a+9c");
+        element(x, 0, "a+2b+3c");
+        element(x, 1, "4a+5b");
+        // 4 + 10 times 9; 5 + 8 + 15 times 9; 12 + 10 times 2
+        due("together", x.together(0, 1), 94 + 148 + 32);
+        text("the one", row(x, 0), "94 148 32");
+        text("the other one", row(x, 1), "4 5 0");
+        element(x, 2, "a");
+        due("by ONE", x.together(0, 2), 94 + 148 + 32);
+        text("the one", row(x, 0), "94 148 32");
+        due("ONE first", x.together(2, 1), 9);
+        text("the other one", row(x, 2), "4 5 0");
+    }
+
     @Sentence(promise = 14, says = "all its numbers (of SORTS there are) together.")
     static void togetherOfSortsThereAre() {
         FusionRules x = made(1, 5, 0);

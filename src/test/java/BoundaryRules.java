@@ -116,6 +116,16 @@ final class BoundaryRules extends Runs {
         due("call 512", x.undo(), 2);
     }
 
+    @Sentence(promise = 1, says = "NONE (-1) no such number; BAD (-2) a number is not as told; STATE (-3) as told; FULL (-4); NOT (-5) as told;")
+    static void constants() {
+        due("NONE", FusionRules.NONE, -1);
+        due("BAD", FusionRules.BAD, -2);
+        due("STATE", FusionRules.STATE, -3);
+        due("FULL", FusionRules.FULL, -4);
+        due("NOT", FusionRules.NOT, -5);
+        due("NO", FusionRules.NO, Long.MIN_VALUE);
+    }
+
     @Sentence(promise = 1, says = "## Promise 1: A new object `FusionRules()`: No RULES told.")
     static void newBesideAnother() {
         FusionRules other = Whole.made();
@@ -379,6 +389,18 @@ final class BoundaryRules extends Runs {
         }
     }
 
+    @Sentence(promise = 7, says = "ONE and j give j once, i and ONE give i once; nothing else is given.")
+    static void oftenOfOneWithFullTable() {
+        FusionRules x = made(0, 5, 9);
+        for (int place = 0; place < 80; place++) {
+            x.tell(1 + place / 20, 1 + place / 5 % 4, place % 5, 9);
+        }
+        text("ONE and ONE", gives(x, 0, 0), "1 0 0 0 0");
+        text("ONE and the last one", gives(x, 0, 4), "0 0 0 0 1");
+        text("the last one and ONE", gives(x, 4, 0), "0 0 0 0 1");
+        text("the first told ones", gives(x, 1, 1), "9 9 9 9 9");
+    }
+
     @Sentence(promise = 7, says = "RULES tell how OFTEN (0 .. 9) a SORT k is in what i and j give.")
     static void oftenEdges() {
         FusionRules x = made(0, 5, 0);
@@ -490,6 +512,20 @@ final class BoundaryRules extends Runs {
         due("ONE changes nothing", x.clash(0), 1114);
         x.tell(1, 4, 0, 1);
         due("l is ONE", x.clash(0), 1110);
+    }
+
+    @Sentence(promise = 8, says = "CLASH (what 0: 1000 times i, 100 times j, 10 times k, and l), UNLIKE (1: 10 times i, and j).")
+    static void clashAsNumber() {
+        FusionRules x = told(3, "b*b=c");
+        x.tell(2, 1, 0, 1);
+        // (1 1) 1 = 2 1 = ONE; 1 (1 1) = 1 2 = nothing
+        due("the least that there is", x.clash(0), 1110);
+        due("UNLIKE", x.clash(1), 12);
+        FusionRules y = made(0, 5, 0);
+        y.tell(4, 4, 3, 1);
+        y.tell(3, 4, 1, 1);
+        due("by 4, 4 and 4", y.clash(0), 4441);
+        due("the last UNLIKE", y.clash(1), 34);
     }
 
     @Sentence(promise = 8, says = "(sums: OFTEN times OFTEN, over all between)")

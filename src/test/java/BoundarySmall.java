@@ -62,6 +62,66 @@ final class BoundarySmall extends Runs {
             due("the first one", x.small(3, 0), 10);
             due("the RULES stay", x.clash(0), clash);
         }
+        FusionRules y = made(0, 5, 0);
+        for (int place = 0; place < 80; place++) {
+            y.tell(1 + place / 20, 1 + place / 5 % 4, place % 5, 9);
+        }
+        int[] rows = {10, 11, 100, 111, 1100, 1110};
+        for (int i = 0; i < rows.length; i++) {
+            due("none without CLASH", y.were(1, 1, 1), 0);
+            due("nothing of RULES that were looked at", y.small(1, i), rows[i]);
+            due("nothing of SMALL LISTS", y.were(2, 1, 0), 0);
+        }
+    }
+
+    @Sentence(promise = 26, says = "all those without CLASH, in order as rows p, q, r, s.")
+    static void smallAreAll() {
+        FusionRules x = new FusionRules();
+        int found = 0;
+        for (int row = 0; row < 81; row++) {
+            int p = row / 27, q = row / 9 % 3, r = row / 3 % 3, s = row % 3;
+            FusionRules told = toldSmall(p, q, r, s);
+            due("x is its own PARTNER", told.partner(1), 1);
+            due("y is its own PARTNER", told.partner(2), 2);
+            due("alike in either order", told.clash(1), NOT);
+            if (told.clash(0) == NOT) {
+                due("row " + found, x.small(2, found), 1000 * p + 100 * q + 10 * r + s);
+                found++;
+            }
+        }
+        due("no more", x.small(2, found), NOT);
+        due("how many", x.small(2, -1), found);
+    }
+
+    private static FusionRules toldSmall(int p, int q, int r, int s) {
+        FusionRules x = made(0, 3, 0);
+        x.tell(1, 1, 0, 1);
+        x.tell(2, 2, 0, 1);
+        x.tell(1, 1, 1, p);
+        x.tell(1, 1, 2, q);
+        x.tell(1, 2, 1, q);
+        x.tell(2, 1, 1, q);
+        x.tell(1, 2, 2, r);
+        x.tell(2, 1, 2, r);
+        x.tell(2, 2, 1, r);
+        x.tell(2, 2, 2, s);
+        return x;
+    }
+
+    @Sentence(promise = 26, says = "SMALL LISTS: i -1 how many, else 1000 times p, 100 times q, 10 times r, and s of the i-th.")
+    static void smallAsNumber() {
+        FusionRules x = new FusionRules();
+        int many = x.small(3, -1);
+        int before = -1;
+        for (int i = 0; i < many; i++) {
+            int row = x.small(3, i);
+            int p = row / 1000, q = row / 100 % 10, r = row / 10 % 10, s = row % 10;
+            due("figures 0 .. 3", Math.max(Math.max(p, q), Math.max(r, s)) <= 3 ? 1 : 0, 1);
+            due("the law of " + row, 1 + p * r + q * s, q * q + r * r);
+            due("rising", row > before ? 1 : 0, 1);
+            before = row;
+        }
+        due("of b 3", many, 20);
     }
 
     // ---- 27: were
@@ -138,6 +198,27 @@ final class BoundarySmall extends Runs {
         due("SIZE 2", x.were(1, 2, 0), ALL_BITS);
     }
 
+    @Sentence(promise = 27, says = "there would be no CLASH (by the RULES as they are; KIND may be any)")
+    static void wereByRulesAsTheyAre() {
+        FusionRules x = made(0, 3, 0);
+        for (int v = 0; v <= 9; v++) {
+            x.tell(1, 1, 0, 1);
+            x.tell(2, 2, 0, v);
+            x.tell(1, 2, 2, 1);
+            x.tell(2, 1, 2, 1);
+            x.tell(2, 2, 1, 1);
+            int bits = x.were(2, 2, 0);
+            for (int one = 0; one <= 9; one++) {
+                x.tell(2, 2, 0, one);
+                due("by " + one, bits >> one & 1, x.clash(0) == NOT ? 1 : 0);
+            }
+        }
+        for (int kind = 1; kind <= 4; kind++) {
+            FusionRules y = made(kind, 5, 9);
+            due("KIND " + kind, y.were(1, 1, 1), y.clash(0) == NOT ? ALL_BITS : 0);
+        }
+    }
+
     // ---- 28: odds
 
     private static int[] draws(int seed, int m, int n) {
@@ -180,6 +261,19 @@ final class BoundarySmall extends Runs {
         due("m -1", x.odds(0, -1, 7, 30, 0), NO);
     }
 
+    @Sentence(promise = 28, says = "for each z becomes z * 1103515245 + 12345 (an int; SEED at first); the SORT is (z >>> 16) % n.")
+    static void drawsOfInts() {
+        FusionRules x = made(0, 5, 0);
+        int below = 0;
+        for (int seed = 0; seed < 40; seed++) {
+            int z = seed * 1103515245 + 12345;
+            below += z < 0 ? 1 : 0;
+            due("seed " + seed, x.odds((z >>> 16) % 5, 1, seed, 1, 0), 1);
+            due("seed " + seed, x.odds(((z >>> 16) + 1) % 5, 1, seed, 1, 0), 0);
+        }
+        due("some were below 0", below > 5 ? 1 : 0, 1);
+    }
+
     @Sentence(promise = 28, says = "ODDS of k: of q SEEDS (1 .. 30), SEED and each 1 more (an int)")
     static void oddsOfSeeds() {
         int[] seeds = {Integer.MAX_VALUE, Integer.MAX_VALUE - 14, Integer.MIN_VALUE, -1, 0, -30};
@@ -211,6 +305,18 @@ final class BoundarySmall extends Runs {
             }
         }
         due("there were such", without > 10 ? 1 : 0, 1);
+        // of twelve DRAWN two or more are not ONE, by each of these SEEDS, so that nothing is given
+        for (int seed = 0; seed < 30; seed++) {
+            int others = 0;
+            for (int sort : draws(seed, 12, 5)) {
+                others += sort != 0 ? 1 : 0;
+            }
+            due("two or more", others > 1 ? 1 : 0, 1);
+        }
+        for (int q = 1; q <= 30; q++) {
+            due("0 of " + q + ": 0", z.odds(4, 12, 0, q, 0), 0);
+            due("by 1", z.odds(4, 12, 0, q, 1), 1);
+        }
         cycle(2, 1, 100, 30);
         cycle(2, 3, 100, 28);
         cycle(3, 5, -77, 27);

@@ -54,6 +54,7 @@ final class BoundaryTables extends Runs {
         characters(told(2, "b*b=5a+9b"), "1 12", "1 28");
         characters(told(2, "b*b=8a"), "1 15", "1 16");
         characters(told(3, "b*b=b;c*c=c"), "1 0 0", "1 0 1", "1 1 0");
+        characters(told(3, "b*b=2a+b;b*c=2a+2b;c*c=0"), "1 30 0");
         characters(told(3, "b*b=b;b*c=b;c*c=c"), "1 0 0", "1 0 1", "1 1 1");
         characters(told(3, "b*b=b;b*c=c;c*c=0"), "1 0 0", "1 1 0");
     }
@@ -102,6 +103,26 @@ final class BoundaryTables extends Runs {
             due("far below, and no such k", x.character(Integer.MIN_VALUE, -1), NOT);
             for (int odd : ODD) {
                 due("k " + odd, x.character(0, odd), NONE);
+            }
+        }
+    }
+
+    @Sentence(promise = 18, says = "CHARACTERS: rows of numbers 0 .. 30, one for each SORT")
+    static void charactersOfOtherSizes() {
+        FusionRules x = told(5, "b*b=9b+9c+9d+9e;c*c=9c+8d+7e;d*d=d;e*e=a");
+        int[] sizes = {5, 1, 4, 2, 5, 3, 1, 5};
+        for (int size : sizes) {
+            for (int kind = 0; kind <= 4; kind++) {
+                FusionRules fresh = told(5, "b*b=9b+9c+9d+9e;c*c=9c+8d+7e;d*d=d;e*e=a");
+                fresh.set(0, kind);
+                fresh.set(1, size);
+                x.set(0, kind);
+                x.set(1, size);
+                int many = fresh.character(-1, 0);
+                due("how many by KIND " + kind + ", SIZE " + size, x.character(-1, 0), many);
+                for (int i = 0; i < many; i++) {
+                    text("as of a new object", character(x, i), character(fresh, i));
+                }
             }
         }
     }
@@ -181,6 +202,20 @@ final class BoundaryTables extends Runs {
         for (int i = 0; i < 5; i++) {
             due("of 0 .. 9", z.back(4, 4, i), i == 4 ? 9 : 0);
             due("ONE first", z.back(0, i, i), 1);
+        }
+    }
+
+    @Sentence(promise = 20, says = "BACK of i, j, k: the sum over m of U (i, m) U (j, m) V (m, k), MODULO 31.")
+    static void backIsOften() {
+        FusionRules[] all = {made(1, 2, 0), made(1, 3, 0), made(1, 5, 0), made(2, 2, 0), made(3, 2, 0), made(3, 3, 0), made(4, 2, 1),
+            told(5, "b*b=9b;c*c=8c;d*d=7d;e*e=6e"), told(4, "b*b=b;b*c=b;b*d=b;c*c=c;c*d=c;d*d=d"), told(2, "b*b=5a+9b")};
+        for (FusionRules x : all) {
+            int size = x.of(1);
+            due("as many", x.character(-1, 0), size);
+            for (int place = 0; place < size * size * size; place++) {
+                int i = place / size / size, j = place / size % size, k = place % size;
+                due("back " + i + " " + j + " " + k, x.back(i, j, k), x.often(i, j, k));
+            }
         }
     }
 
@@ -338,11 +373,30 @@ final class BoundaryTables extends Runs {
         due("rows that are alike", tables(2, new int[][] {{1, 2}, {1, 2}}).given(0, 0, 0), STATE);
         due("by 31: 2 times 16 is 1", tables(2, new int[][] {{1, 2}, {16, 1}}).given(0, 0, 0), STATE);
         due("a sum of two", tables(3, new int[][] {{1, 2, 3}, {4, 5, 6}, {5, 7, 9}}).given(0, 0, 0), STATE);
+        due("by 31: 7 times 9 is 1", tables(4, new int[][] {{7, 1, 30, 2}, {0, 0, 0, 5}, {0, 0, 3, 1}, {1, 9, 9, 9}})
+            .given(0, 0, 0), STATE);
         due("a row of 0", tables(3, new int[][] {{1, 2, 3}, {4, 5, 6}}).given(0, 0, 0), STATE);
         due("no more than that row", tables(2, new int[][] {{1, 2}, {16, 2}, {7, 7}}).given(0, 0, 0), 1);
         due("a 0 in the last place", tables(2, new int[][] {{1, 1}, {1, 0}}).given(0, 0, 0), 1);
         due("a 0 where a row begins", tables(3, new int[][] {{1, 1, 1}, {1, 1, 0}, {1, 0, 0}}).given(0, 0, 0), 1);
         due("SIZE 1", tables(1, new int[][] {{7}}).given(0, 0, 0), 1);
+    }
+
+    @Sentence(promise = 24, says = "the sum of S (i, m) W (m, k) is 1, if i is k, else 0")
+    static void givenOfOneSecond() {
+        int[][][] all = {{{1, 2, 3}, {2, 4, 1}, {3, 1, 5}}, {{1, 2, 3}, {2, 4, 1}, {3, 6, 5}}, {{7, 1, 30, 2}, {0, 0, 0, 5}, {0, 0, 3, 1},
+            {1, 8, 9, 9}}, {{1, 1, 1, 1, 1}, {1, 1, 1, 1, 2}, {2, 2, 2, 3, 1}, {3, 3, 4, 1, 1}, {4, 5, 1, 1, 1}}};
+        for (int[][] s : all) {
+            FusionRules x = tables(s[0].length, s);
+            boolean alike = s[2][1] == 6;
+            for (int i = 0; i < s.length; i++) {
+                for (int k = 0; k < s.length; k++) {
+                    // by ONE all of S (0, m) falls out, and that sum is left
+                    due("i " + i + ", k " + k, x.given(i, 0, k), alike ? STATE : i == k ? 1 : 0);
+                    due("ONE first", x.given(0, i, k), alike ? STATE : i == k ? 1 : 0);
+                }
+            }
+        }
     }
 
     @Sentence(promise = 24, says = "those of SORTS there are count, all MODULO 31.")
@@ -385,6 +439,7 @@ final class BoundaryTables extends Runs {
         due("an empty row", tables(2, new int[][] {{1, 0}, {0, 0}}).law(0), 0);
         due("an empty row ahead", tables(2, new int[][] {{0, 0}, {0, 1}}).law(0), 0);
         due("two in a column", tables(2, new int[][] {{1, 0}, {1, 0}}).law(0), 0);
+        due("two in a column, another one between", tables(3, new int[][] {{1, 0, 0}, {0, 1, 0}, {1, 0, 0}}).law(0), 0);
         due("two in a row", tables(2, new int[][] {{1, 1}, {0, 0}}).law(0), 0);
         due("two in a row, MODULO 31 not 0", tables(2, new int[][] {{1, 1}, {0, 1}}).law(0), 0);
         due("MODULO 31: 1 30", tables(2, new int[][] {{1, 30}, {0, 30}}).law(0), 1);

@@ -350,9 +350,37 @@ public final class ModelTest {
         }
     }
 
+    /** Tables of three SORTS, dense ones and sparse ones, alike in either order or not. */
+    private static void charactersOfThree() {
+        Random random = new Random(1);
+        for (int run = 0; run < 3000; run++) {
+            FusionRules x = new FusionRules();
+            Model model = new Model();
+            x.set(1, 3);
+            model.set(1, 3);
+            for (int place = 0; place < 12; place++) {
+                int i = 1 + place / 6;
+                int j = 1 + place / 3 % 2;
+                int v = run % 2 == 0 ? Math.max(0, random.nextInt(5) - 2) : random.nextInt(10);
+                x.tell(i, j, place % 3, v);
+                model.tell(i, j, place % 3, v);
+                if (run % 4 < 3) {
+                    x.tell(j, i, place % 3, v);
+                    model.tell(j, i, place % 3, v);
+                }
+            }
+            for (int i = -1; i <= 3; i++) {
+                for (int k = 1; k < 3; k++) {
+                    CHECK.same("character", x.character(i, k), model.character(i, k));
+                }
+            }
+        }
+    }
+
     public static void main(String[] args) {
         lawsOfTwo();
         manyCharacters();
+        charactersOfThree();
         for (int seed = 0; seed < RUNS; seed++) {
             new ModelTest(seed).run();
         }
