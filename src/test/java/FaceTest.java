@@ -8,7 +8,9 @@ import java.lang.reflect.Modifier;
 import java.nio.charset.StandardCharsets;
 import java.nio.file.Files;
 import java.nio.file.Path;
+import java.util.Map;
 import java.util.Set;
+import java.util.TreeMap;
 import java.util.TreeSet;
 import java.util.regex.Matcher;
 import java.util.regex.Pattern;
@@ -106,6 +108,7 @@ public final class FaceTest {
         CHECK.holds("loops without an end", !Pattern.compile("while \\(true\\)|for \\(;;\\)").matcher(code).find());
         CHECK.holds("twelve classes at most", code.split("\\bclass\\b").length <= 13);
         longMethods(text.split("\n"));
+        deepCalls(code);
     }
 
     private static void longMethods(String[] lines) {
@@ -119,6 +122,47 @@ public final class FaceTest {
             }
         }
         CHECK.same("a method that was not seen to end", start, -1);
+    }
+
+    /** The names of methods and what stands in them; each name is borne by one method alone, which is asked, too. */
+    private static Map<String, String> bodies(String code) {
+        Map<String, String> bodies = new TreeMap<>();
+        Matcher heads = Pattern.compile("(?m)^( {4}| {8})(?:\\w+ )*[\\w\\[\\]]+ (\\w+)\\(.*\\) \\{$").matcher(code);
+        while (heads.find()) {
+            int end = code.indexOf("\n" + heads.group(1) + "}\n", heads.end());
+            String before = bodies.put(heads.group(2), code.substring(heads.end(), Math.max(end, heads.end())));
+            CHECK.holds("found whole and once: " + heads.group(2), end >= 0 && before == null);
+        }
+        return bodies;
+    }
+
+    /** How many calls stand open at most in a call of this method; one that calls itself is counted once. */
+    private static int deep(String name, Map<String, String> bodies, Set<String> open) {
+        int most = 0;
+        open.add(name);
+        Matcher calls = Pattern.compile("\\b(\\w+)\\(").matcher(bodies.get(name));
+        while (calls.find()) {
+            String callee = calls.group(1);
+            if (bodies.containsKey(callee) && !callee.equals(name)) {
+                CHECK.holds("methods that call one another: " + name + " and " + callee, !open.contains(callee));
+                most = open.contains(callee) ? most : Math.max(most, deep(callee, bodies, open));
+            }
+        }
+        open.remove(name);
+        return 1 + most;
+    }
+
+    private static void deepCalls(String code) {
+        Map<String, String> bodies = bodies(code.replaceAll("\\b(Arrays|Math|System)\\.\\w+\\(", "("));
+        for (String head : FACE) {
+            String name = head.replaceAll(".* |\\(.*", "");
+            CHECK.holds("found: " + name, bodies.containsKey(name));
+            int deep = bodies.containsKey(name) ? deep(name, bodies, new TreeSet<>()) : 0;
+            CHECK.holds("eight calls deep at most: " + name + " goes " + deep, deep >= 1 && deep <= 8);
+        }
+        for (Map.Entry<String, String> body : bodies.entrySet()) {
+            CHECK.holds("makes no object: " + body.getKey(), !Pattern.compile("\\bnew\\b").matcher(body.getValue()).find());
+        }
     }
 
     private static void dearCalls(FusionRules x, int times) {
